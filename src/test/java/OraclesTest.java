@@ -142,7 +142,7 @@ final class OraclesTest {
         }
         List<Race> races = new ArrayList<>();
         int many = random.nextInt(3) == 0 ? 40 : random.nextInt(12);
-        for (int i = 0; i < many; i++) {
+        for (int turn = 0; turn < 400 && races.size() < many; turn++) {
             int a = random.nextInt(oars);
             int b = Math.min(oars - 1, a / reach * reach + random.nextInt(reach));
             int by = random.nextInt(6) == 0 ? 0 : random.nextInt(4) == 0 ? most : random.nextInt(2 * most + 1) - most;
@@ -150,6 +150,10 @@ final class OraclesTest {
                 races.add(new Race(a, b, by));
                 check.due("race", x.race(a, b, by), races.size());
             }
+        }
+        for (int back = random.nextInt(4) - 1; back > 0 && !races.isEmpty(); back--) {
+            races.remove(races.size() - 1);
+            check.due("unrace", x.unrace(), races.size());
         }
         for (int o = 0; o < oars; o++) {
             tell(x, o, oars, races);
