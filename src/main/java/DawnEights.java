@@ -188,15 +188,13 @@ public final class DawnEights {
     }
 
     public int rule() {
-        if (!rules.read(tape)) {
-            tape.length = 0;
-            return FAULT_BASE - tape.at;
-        }
+        // FULL refuses the call: THE TAPE is then not even read, so no FAULT can be told ahead of it.
         if (rules.count >= RuleBook.MOST) {
             return FULL;
         }
+        boolean isRule = rules.read(tape);
         tape.length = 0;
-        return rules.keepRead();
+        return isRule ? rules.keepRead() : FAULT_BASE - tape.at;
     }
 
     public int ruled(int b, int hour) {
@@ -931,21 +929,19 @@ public final class DawnEights {
         private static final String FIELD_NAMES = "stream|wind|hour|month|size|young|ice";
         private static final String SIGNS = "=|<|>";
         private static final int EQUAL = 0, BELOW = 1;
-        /** One row more than there may be: a RULE is read into the row behind the last one. */
-        private static final int ROWS = MOST + 1;
 
         int count = 0;
-        final int[] bars = new int[ROWS];
-        private final int[] kind = new int[ROWS];
-        private final int[] tests = new int[ROWS];
-        private final boolean[] denied = new boolean[ROWS * MOST_TESTS];
-        private final int[] field = new int[ROWS * MOST_TESTS];
-        private final int[] sign = new int[ROWS * MOST_TESTS];
-        private final int[] number = new int[ROWS * MOST_TESTS];
+        final int[] bars = new int[MOST];
+        private final int[] kind = new int[MOST];
+        private final int[] tests = new int[MOST];
+        private final boolean[] denied = new boolean[MOST * MOST_TESTS];
+        private final int[] field = new int[MOST * MOST_TESTS];
+        private final int[] sign = new int[MOST * MOST_TESTS];
+        private final int[] number = new int[MOST * MOST_TESTS];
         /** What each FIELD is at the time of asking. */
         final int[] now = new int[FIELDS];
 
-        /** Reads THE TAPE into the free row; if it is no RULE, the tape's place is the FAULT. */
+        /** Reads THE TAPE into the row behind the last; only if not FULL. No RULE: the tape's place is the FAULT. */
         boolean read(Tape tape) {
             tape.at = 0;
             tests[count] = 0;

@@ -358,13 +358,17 @@ final class OraclesTest {
         x.sit(place[0], random.nextBoolean() ? 8 : 0, 0);
         x.sit(place[1], random.nextBoolean() ? 8 : 0, 1);
         List<String> kept = new ArrayList<>();
-        for (int i = 0; i < 14; i++) {
+        for (int i = 0; i < 20; i++) {
             String text = someRule(random);
             text = random.nextBoolean() ? spoil(text, random) : text;
-            boolean good = RULE.matcher(text).matches();
-            if (good && kept.size() == 10) {
-                break;
+            if (kept.size() == 10) {
+                Check.type(x, text);
+                int bytes = x.count(8);
+                check.due("'" + text + "' behind ten", x.rule(), -4);
+                check.due("the tape stays", x.count(8), bytes);
+                continue;
             }
+            boolean good = RULE.matcher(text).matches();
             check.due("'" + text + "'", Check.readRule(x, text), good ? kept.size() : -10 - faultOf(text));
             if (good) {
                 kept.add(text);

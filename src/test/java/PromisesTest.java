@@ -33,6 +33,7 @@ final class PromisesTest {
         begin(18); ruleReads();
         begin(18); ruleFaults();
         begin(18); ruleFull();
+        begin(18); ruleFaultNearFull();
         begin(19); ruledByKind();
         begin(19); ruledByField();
         begin(20); mayInOrder();
@@ -642,14 +643,28 @@ final class PromisesTest {
         for (int i = 0; i < 10; i++) {
             due("rule " + i, Check.readRule(x, "let * if hour=" + i), i);
         }
-        due("a fault is told ahead of FULL", Check.readRule(x, "bad"), -12);
-        due("and empties the tape", x.count(8), 0);
-        due("the 11th", Check.readRule(x, "bar *"), FULL);
-        due("FULL changes nothing", x.count(8), 5);
+        due("an empty tape", x.rule(), FULL);
+        due("a faulty tape", Check.readRule(x, "bad"), FULL);
+        due("it stays", x.count(8), 3);
+        due("a good one behind it", Check.readRule(x, "bar *"), FULL);
+        due("it stays too", x.count(8), 8);
         due("still ten", x.count(3), 10);
-        due("it does not hold", x.ruled(0, 20), NONE);
+        due("none more holds", x.ruled(0, 20), NONE);
         due("the tenth does", x.ruled(0, 9), 9);
+        while (x.feed(0, 8) != FULL) {
+            due("a longer tape", x.rule(), FULL);
+        }
+        due("as long as it gets", x.count(8), 120);
         due("again", x.rule(), FULL);
+    }
+
+    private static void ruleFaultNearFull() {
+        x.boat(SINGLE, 30, 150, 1);
+        for (int i = 0; i < 10; i++) {
+            Check.readRule(x, "let * if hour=" + i);
+            due("a fault below ten rules empties the tape", Check.readRule(x, "bad"), i < 9 ? -12 : FULL);
+            due("what is left of it", x.count(8), i < 9 ? 0 : 3);
+        }
     }
 
     private static void ruledByKind() {
