@@ -295,10 +295,7 @@ final class OraclesTest {
 
     // ---- rules: the grammar as a regular expression, and what each one tells
 
-    private static final String TEST = "(!?)(stream|wind|hour|month|size|young|ice)([=<>])([0-9]{1,3})";
-    private static final Pattern ONE_TEST = Pattern.compile(TEST);
-    private static final Pattern RULE = Pattern.compile(
-        "(let|bar) (pair|four|eight|single|quad|\\*)( if " + TEST + "(&" + TEST + "){0,2})?");
+    private static final Pattern ONE_TEST = Pattern.compile(Grammar.TEST);
     private static final List<String> KIND_NAMES = List.of("pair", "four", "eight", "single", "quad");
 
     private static String someRule(Random random) {
@@ -331,17 +328,6 @@ final class OraclesTest {
         return spoilt.toString();
     }
 
-    /** How many bytes begin a RULE at least: the FAULT, if they are not one. */
-    private static int faultOf(String text) {
-        for (int p = 0; p < text.length(); p++) {
-            Matcher m = RULE.matcher(text.substring(0, p + 1));
-            if (!m.matches() && !m.hitEnd()) {
-                return p;
-            }
-        }
-        return text.length();
-    }
-
     private static void rules(Random random) {
         DawnEights x = new DawnEights();
         x.oar(4, 60);
@@ -368,8 +354,8 @@ final class OraclesTest {
                 check.due("the tape stays", x.count(8), bytes);
                 continue;
             }
-            boolean good = RULE.matcher(text).matches();
-            check.due("'" + text + "'", Check.readRule(x, text), good ? kept.size() : -10 - faultOf(text));
+            boolean good = Grammar.isRule(text);
+            check.due("'" + text + "'", Check.readRule(x, text), good ? kept.size() : -10 - Grammar.faultOf(text));
             if (good) {
                 kept.add(text);
             }

@@ -27,6 +27,8 @@ final class RacesBoundsTest {
         crewTooFew();
         crewWhoMayBeTaken();
         crewCosts();
+        crewMovesForFour();
+        crewOfTheLastBoat();
         crewLeastSum();
         crewOfSeveral();
         crewSitsNowhere();
@@ -621,6 +623,59 @@ final class RacesBoundsTest {
         doc.answers("so it stays", 0, x -> {
             x.crew(0, 12, 1);
             return x.seat(0, 0);
+        });
+    }
+
+    /** To move pays off, at best, as much as it costs: of several the one in which OAR 0 has the least SEAT. */
+    private static void crewMovesForFour() {
+        doc.says("4 if it has another one of this BOAT, else 5");
+        doc.given(x -> {
+            x.oar(Clubs.BOW, 60);
+            x.oar(Clubs.STROKE, 60);
+            x.boat(Clubs.PAIR, 30, 150, 10);
+            x.sit(0, 1, 0);
+        });
+        // to stay: 2, and 5 and 2; to change: 4, and 5
+        doc.answers("to stay or to change", 9, x -> x.crew(0, 12, 1));
+        doc.answers("oar 0 changes", 0, x -> {
+            x.crew(0, 12, 1);
+            return x.about(0, 3);
+        });
+        doc.answers("oar 1 comes", 1, x -> {
+            x.crew(0, 12, 1);
+            return x.about(1, 3);
+        });
+        doc.given(x -> {
+            x.oar(Clubs.BOW, 60);
+            x.oar(Clubs.BOTH, 60);
+            x.boat(Clubs.PAIR, 30, 150, 10);
+            x.sit(0, 1, 0);
+        });
+        // to stay: 2, and 5; to change: 4, and 5
+        doc.answers("to stay is cheaper", 7, x -> x.crew(0, 12, 1));
+        doc.answers("oar 0 stays", 1, x -> {
+            x.crew(0, 12, 1);
+            return x.about(0, 3);
+        });
+    }
+
+    private static void crewOfTheLastBoat() {
+        doc.says("0 if it has this SEAT already");
+        doc.given(x -> {
+            oars(x, 16);
+            Clubs.boats(x, 8, Clubs.EIGHT);
+            x.sit(7, Clubs.COX, 0);
+            x.crew(7, 12, 1);
+        });
+        for (int s = 0; s < 8; s++) {
+            doc.takes("seat", s + 1, (x, on) -> x.seat(7, on), s);
+        }
+        doc.answers("all have their seats", 0, x -> x.crew(7, 12, 1));
+        doc.answers("the cox is not taken", 0, x -> x.seat(7, Clubs.COX));
+        doc.answers("nor taken by the boat ahead", Clubs.STATE, x -> x.crew(6, 12, 1));
+        doc.answers("but seven and one more are enough", 40, x -> {
+            x.sit(7, Clubs.COX, -1);
+            return x.crew(6, 12, 1);
         });
     }
 

@@ -1,6 +1,3 @@
-import java.util.regex.Matcher;
-import java.util.regex.Pattern;
-
 /** The bounds of the document's section 3 and of promises 16 to 20: waters, THE TAPE, RULES and ASHORE. */
 final class RiverBoundsTest {
     private static final Sentences doc = new Sentences();
@@ -24,6 +21,7 @@ final class RiverBoundsTest {
         ruleTests();
         ruleEveryByteAtEveryPlace();
         ruleEmptiesTheTape();
+        ruleReadsNothingBehindTheEnd();
         rulesAtMost();
         askedIsTheGreatest();
         askedOfItsKind();
@@ -350,23 +348,6 @@ final class RiverBoundsTest {
         holds("let * if hour=12&hour>11&hour<12", 0, 0, 0, false);
     }
 
-    private static final String TEST = "!?(stream|wind|hour|month|size|young|ice)[=<>][0-9]{1,3}";
-    private static final Pattern RULE = Pattern.compile(
-        "(let|bar) (pair|four|eight|single|quad|\\*)( if " + TEST + "(&" + TEST + "){0,2})?");
-
-    private static int expected(String text) {
-        if (RULE.matcher(text).matches()) {
-            return 0;
-        }
-        for (int p = 0; p < text.length(); p++) {
-            Matcher m = RULE.matcher(text.substring(0, p + 1));
-            if (!m.matches() && !m.hitEnd()) {
-                return -10 - p;
-            }
-        }
-        return -10 - text.length();
-    }
-
     /** Each byte there is, behind each beginning of some RULES. */
     private static void ruleEveryByteAtEveryPlace() {
         doc.says("The FAULT is the place of the first byte with which none begins so (the end of THE TAPE, "
@@ -376,8 +357,8 @@ final class RiverBoundsTest {
             for (int at = 0; at <= text.length(); at++) {
                 for (int sign = 0; sign < 256; sign++) {
                     String spoilt = text.substring(0, at) + (char) sign;
-                    DawnEights x = new DawnEights();
-                    doc.due("'" + spoilt + "'", Check.readRule(x, spoilt), expected(spoilt));
+                    int want = Grammar.isRule(spoilt) ? 0 : -10 - Grammar.faultOf(spoilt);
+                    doc.due("'" + spoilt + "'", Check.readRule(new DawnEights(), spoilt), want);
                 }
             }
         }
@@ -410,6 +391,27 @@ final class RiverBoundsTest {
             Check.readRule(x, "let *");
             return x.ruled(0, 12);
         });
+    }
+
+    /** What an earlier, longer text had behind the end of this one is not read: no word, no digit, no &. */
+    private static void ruleReadsNothingBehindTheEnd() {
+        doc.says("the end of THE TAPE, if it ends too early");
+        for (int end = 0; end < LONGEST.length(); end++) {
+            String begun = LONGEST.substring(0, end);
+            doc.given(x -> {
+                Check.readRule(x, LONGEST);
+                Check.type(x, begun);
+            });
+            boolean ends = Grammar.isRule(begun);
+            doc.answers("'" + begun + "' behind the whole", ends ? 1 : -10 - end, x -> x.rule());
+        }
+        doc.given(x -> {
+            x.boat(Clubs.SINGLE, 30, 150, 10);
+            Check.readRule(x, "bar * if hour=123");
+            Check.readRule(x, "let * if hour=1");
+        });
+        doc.answers("the number ends with the tape", 1, x -> x.ruled(0, 1));
+        doc.answers("and is no longer one", Clubs.NONE, x -> x.ruled(0, 12));
     }
 
     private static void rulesAtMost() {
@@ -642,6 +644,18 @@ final class RiverBoundsTest {
             x.ill(8, 1);
             return x.may(0, 12);
         });
+        doc.given(RiverBoundsTest::lastOfEightFours);
+        doc.answers("the eighth boat goes", 0, x -> x.may(7, 12));
+        doc.answers("one too light in the eighth boat", 3, x -> {
+            x.sit(7, 0, -1);
+            x.sit(7, 0, 5);
+            return x.may(7, 12);
+        });
+        doc.answers("the eighth boat has no cox", 2, x -> {
+            x.sit(7, Clubs.COX, -1);
+            return x.may(7, 12);
+        });
+        doc.given(x -> ashore(x, Clubs.FOUR, 0));
         doc.answers("a let behind a bar", 0, x -> {
             Check.readRule(x, "bar *");
             Check.readRule(x, "let *");
@@ -656,6 +670,19 @@ final class RiverBoundsTest {
             Check.readRule(x, "bar * if hour=11");
             return x.may(0, 12);
         });
+    }
+
+    /** Eight fours; OARS 0 to 3 in the last one, of 60 as it wants, 4 of 40 its COX, and 5 of 59, too light by 1. */
+    private static void lastOfEightFours(DawnEights x) {
+        Clubs.boats(x, 7, Clubs.FOUR);
+        x.boat(Clubs.FOUR, 60, 60, 10);
+        Clubs.oars(x, 4, Clubs.BOTH, 60);
+        x.oar(Clubs.BOTH, 40);
+        x.oar(Clubs.BOTH, 59);
+        for (int s = 0; s < 4; s++) {
+            x.sit(7, s, s);
+        }
+        x.sit(7, Clubs.COX, 4);
     }
 
     private static void ashore(DawnEights x, int kind, int reasons) {
