@@ -35,6 +35,7 @@ final class LanguageTest {
         for (Class<?> inside : classes) {
             check.isTrue("rule 2: " + inside + " is static", Modifier.isStatic(inside.getModifiers()));
             check.isTrue("rule 2: no class inside " + inside, inside.getDeclaredClasses().length == 0);
+            names(inside);
         }
         classes.add(DawnEights.class);
         for (Class<?> one : classes) {
@@ -81,6 +82,17 @@ final class LanguageTest {
             }
         }
         check.isTrue("rule 11: " + one + " has twenty fields at most", own <= 20);
+    }
+
+    /** Rule 1, read strictly: no method of a class inside bears the name of a public one either. */
+    private static void names(Class<?> inside) {
+        Set<String> face = new TreeSet<>();
+        for (Method m : DawnEights.class.getMethods()) {
+            face.add(m.getName());
+        }
+        for (Method m : inside.getDeclaredMethods()) {
+            check.isTrue("rule 1: " + m + " bears a public one's name", !face.contains(m.getName()));
+        }
     }
 
     private static void parameters(Class<?> one) {
