@@ -17,7 +17,7 @@ final class OraclesTest {
         for (int seed = 0; seed < 400; seed++) {
             races(new Random(seed));
         }
-        for (int seed = 0; seed < 400; seed++) {
+        for (int seed = 0; seed < 800; seed++) {
             crews(new Random(seed));
         }
         for (int seed = 0; seed < 3000; seed++) {
@@ -155,9 +155,22 @@ final class OraclesTest {
             races.remove(races.size() - 1);
             check.due("unrace", x.unrace(), races.size());
         }
-        for (int o = 0; o < oars; o++) {
-            tell(x, o, oars, races);
+        tell(x, 0, oars, races);
+        for (int o = 1; o < oars; o++) {
+            tell(raced(oars, races), o, oars, races);
         }
+    }
+
+    /** An object of its own for each OAR: all of them together would ask more than 512 calls of one. */
+    private static DawnEights raced(int oars, List<Race> races) {
+        DawnEights x = new DawnEights();
+        for (int o = 0; o < oars; o++) {
+            x.oar(0, 60);
+        }
+        for (Race r : races) {
+            x.race(r.x, r.y, r.by);
+        }
+        return x;
     }
 
     private static void tell(DawnEights x, int o, int oars, List<Race> races) {
@@ -252,7 +265,7 @@ final class OraclesTest {
             kind[b] = eights && b == 0 ? 2 : new int[] {0, 1, 3, 4}[random.nextInt(4)];
             x.boat(kind[b], 30, 150, 9);
         }
-        for (int turn = 0; turn < 12; turn++) {
+        for (int turn = 0; turn < 6; turn++) {
             int b = eights ? random.nextInt(8) / 7 : random.nextInt(3);
             for (int i = random.nextInt(4); i > 0 && oars > 0; i--) {
                 x.sit(b, random.nextInt(9), random.nextInt(oars + 1) - 1);
